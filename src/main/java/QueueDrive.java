@@ -433,7 +433,7 @@ public final class QueueDrive {
             return command;
         }
 
-        /** The row of the command goes behind the pending ones and keeps what it says till it is used again. */
+        /** The row goes behind the pending ones, and says what it said till it is used again. */
         void removePending(int pick) {
             if (!hasPending(pick)) {
                 return;

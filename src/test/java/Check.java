@@ -11,8 +11,16 @@ final class Check {
 
     private static final int MOST_TOLD = 40;
 
+    private int cases;
     private int asked;
     private int wrong;
+    private String sentence = "";
+
+    /** Opens a case of its own: what the document says there is told with each of its faults. */
+    void about(String words) {
+        cases++;
+        sentence = "\"" + words + "\": ";
+    }
 
     void due(String call, long got, long want) {
         asked++;
@@ -28,16 +36,30 @@ final class Check {
         }
     }
 
+    /** No queue has a pending command or a completion: 24 calls. */
+    void noCommands(QueueDrive x) {
+        for (int queue = 0; queue <= 2; queue++) {
+            due("queue(" + queue + ", 0)", x.queue(queue, 0), 0);
+            due("queue(" + queue + ", 1)", x.queue(queue, 1), 0);
+            for (int what = 2; what <= 5; what++) {
+                due("queue(" + queue + ", " + what + ")", x.queue(queue, what), QueueDrive.REFUSED);
+            }
+            due("step(" + queue + ", 0)", x.step(queue, 0), QueueDrive.REFUSED);
+            due("take(" + queue + ")", x.take(queue), QueueDrive.REFUSED);
+        }
+    }
+
     /** A fault can spoil a million answers, of which the first ones tell enough. */
     private void tell(String fault) {
         wrong++;
         if (wrong <= MOST_TOLD) {
-            System.out.println(fault);
+            System.out.println(sentence + fault);
         }
     }
 
     void end() {
-        System.out.println(asked + " answers, " + wrong + " wrong");
+        System.out.println((cases == 0 ? "" : cases + " cases, ") + asked + " answers, " + wrong
+                + " wrong");
         if (wrong != 0) {
             System.exit(1);
         }

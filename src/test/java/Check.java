@@ -6,8 +6,6 @@ final class Check {
     static final int FLUSH = 3;
     static final int DROP = 4;
     static final int MATCH = 5;
-    static final int[] FAR_OFF = {Integer.MIN_VALUE, Integer.MIN_VALUE + 1, -1000, 1000,
-        Integer.MAX_VALUE - 3, Integer.MAX_VALUE};
 
     private static final int MOST_TOLD = 40;
 

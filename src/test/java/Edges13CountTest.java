@@ -78,7 +78,7 @@ public final class Edges13CountTest {
     }
 
     private static void unitsUpToTheLimit() {
-        check.about("0 UNITS in the cache; 2 UNITS that were stored: at most LIMIT, for each LIMIT");
+        check.about("0 UNITS in the cache; 2 UNITS that were stored: about each LIMIT");
         for (int limit = 1; limit <= 6; limit++) {
             QueueDrive x = new QueueDrive(limit);
             for (int i = 1; i <= 9; i++) {

@@ -16,6 +16,7 @@ public final class EdgesTermsTest {
         writeThatMakesRoom();
         forceWithAnEmptyCache();
         forceWithAFullCache();
+        forceOfTheMostPages();
         flushOfAnEmptyCache();
         flushOfAFullCache();
         dropThatMakesRoom();
@@ -195,6 +196,20 @@ public final class EdgesTermsTest {
             check.due("count(3)", x.count(3), limit + 1);
             check.due("its word is the last", x.flash(0), 77);
             check.due("the newest of the cache", x.flash(limit - 1), limit == 1 ? 77 : limit - 1);
+        }
+    }
+
+    private static void forceOfTheMostPages() {
+        check.about("2 FORCE: six UNITS of four addresses, then its own");
+        QueueDrive x = new QueueDrive(6);
+        for (int a = 0; a < 24; a += 4) {
+            Check.run(x, Check.WRITE, a, 4, 100 + a);
+        }
+        check.due("result", Check.run(x, Check.FORCE, 20, 4, 7), 0);
+        check.due("count(2)", x.count(2), 7);
+        check.due("count(3)", x.count(3), 28);
+        for (int a = 0; a < 24; a++) {
+            check.due("flash(" + a + ")", x.flash(a), a < 20 ? 100 + a : a - 13);
         }
     }
 

@@ -4,6 +4,8 @@ import java.util.Random;
 public final class LongRunsTest {
     private static final int RUNS = 4000;
     private static final int CALLS = 512;
+    private static final int[] FAR_OFF = {Integer.MIN_VALUE, Integer.MIN_VALUE + 1, -1000, 1000,
+        Integer.MAX_VALUE - 3, Integer.MAX_VALUE};
     private static final Check check = new Check();
     private final Random draw;
     private final QueueDrive x;
@@ -106,7 +108,7 @@ public final class LongRunsTest {
             return most + 1;
         }
         if (chance == 2) {
-            return Check.FAR_OFF[draw.nextInt(Check.FAR_OFF.length)];
+            return FAR_OFF[draw.nextInt(FAR_OFF.length)];
         }
         return least + draw.nextInt(most - least + 1);
     }

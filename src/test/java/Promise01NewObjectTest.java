@@ -1,13 +1,11 @@
-/** Promise 1: a new object holds nothing, and its limit is clamped to 1 .. 6. */
+/** Promise 1: a new object holds nothing, and keeps its limit. */
 public final class Promise01NewObjectTest {
     private static final Check check = new Check();
 
     public static void main(String[] args) {
         holdsNothing();
-        int[] limits = {Integer.MIN_VALUE, -1, 0, 1, 2, 3, 4, 5, 6, 7, 100, Integer.MAX_VALUE};
-        int[] clamped = {1, 1, 1, 1, 2, 3, 4, 5, 6, 6, 6, 6};
-        for (int i = 0; i < limits.length; i++) {
-            keepsLimit(limits[i], clamped[i]);
+        for (int limit = 1; limit <= 6; limit++) {
+            keepsLimit(limit);
         }
         objectsAreApart();
         check.end();
@@ -31,12 +29,12 @@ public final class Promise01NewObjectTest {
         check.due("unit of a new drive", x.unit(0, 0), QueueDrive.REFUSED);
     }
 
-    private static void keepsLimit(int limit, int clamped) {
+    private static void keepsLimit(int limit) {
         QueueDrive x = new QueueDrive(limit);
         for (int i = 0; i < 8; i++) {
             Check.run(x, Check.WRITE, i, 1, i);
-            check.due("limit " + limit + ": count(0)", x.count(0), Math.min(i + 1, clamped));
-            check.due("limit " + limit + ": count(2)", x.count(2), Math.max(0, i + 1 - clamped));
+            check.due("limit " + limit + ": count(0)", x.count(0), Math.min(i + 1, limit));
+            check.due("limit " + limit + ": count(2)", x.count(2), Math.max(0, i + 1 - limit));
         }
     }
 

@@ -4,8 +4,6 @@ public final class Promise03StepTest {
 
     public static void main(String[] args) {
         anyPickIsCarriedOut();
-        wrongPicksAreRefused();
-        fourCompletionsAreBusy();
         readSumsWhatIsHeld();
         writeIsCached();
         fullCacheStoresItsOldest();
@@ -13,7 +11,6 @@ public final class Promise03StepTest {
         flushCountsUnits();
         dropTakesAway();
         matchCountsWhatDiffers();
-        wordsWrap();
         check.end();
     }
 
@@ -41,44 +38,6 @@ public final class Promise03StepTest {
             check.due("take(1)", x.take(1), number);
         }
         check.due("result()", x.result(), 46);
-    }
-
-    private static void wrongPicksAreRefused() {
-        QueueDrive x = new QueueDrive(2);
-        x.submit(1, Check.WRITE, 0, 1, 1);
-        x.submit(1, Check.WRITE, 1, 1, 1);
-        String before = Check.state(x);
-        for (int off : Check.FAR_OFF) {
-            check.due("queue " + off, x.step(off, 0), QueueDrive.REFUSED);
-            check.due("pick " + off, x.step(1, off), QueueDrive.REFUSED);
-        }
-        check.due("step(-1, 0)", x.step(-1, 0), QueueDrive.REFUSED);
-        check.due("step(3, 0)", x.step(3, 0), QueueDrive.REFUSED);
-        check.due("step(1, -1)", x.step(1, -1), QueueDrive.REFUSED);
-        check.due("step(1, 2)", x.step(1, 2), QueueDrive.REFUSED);
-        check.due("step(1, 3)", x.step(1, 3), QueueDrive.REFUSED);
-        check.due("step(1, 4)", x.step(1, 4), QueueDrive.REFUSED);
-        check.due("step(0, 0)", x.step(0, 0), QueueDrive.REFUSED);
-        check.same("the state after refusals", Check.state(x), before);
-    }
-
-    private static void fourCompletionsAreBusy() {
-        QueueDrive x = new QueueDrive(2);
-        for (int i = 0; i < 4; i++) {
-            x.submit(2, Check.WRITE, i, 1, i);
-            x.step(2, 0);
-        }
-        check.due("none pending", x.step(2, 0), QueueDrive.REFUSED);
-        x.submit(2, Check.WRITE, 20, 1, 9);
-        String before = Check.state(x);
-        check.due("busy", x.step(2, 0), QueueDrive.BUSY);
-        check.due("no such one", x.step(2, 1), QueueDrive.REFUSED);
-        check.due("pick 4", x.step(2, 4), QueueDrive.REFUSED);
-        check.same("the state after BUSY", Check.state(x), before);
-        x.submit(0, Check.READ, 20, 1, 0);
-        check.due("another queue", x.step(0, 0), 6);
-        x.take(2);
-        check.due("one was taken", x.step(2, 0), 5);
     }
 
     private static void readSumsWhatIsHeld() {
@@ -188,17 +147,5 @@ public final class Promise03StepTest {
         check.due("cache and flash", Check.run(x, Check.MATCH, 0, 4, 10), 2);
         check.due("nothing is not 0", Check.run(x, Check.MATCH, 3, 1, 0), 1);
         check.due("no unit came of it", x.count(0), 2);
-    }
-
-    private static void wordsWrap() {
-        QueueDrive x = new QueueDrive(1);
-        Check.run(x, Check.WRITE, 20, 4, Integer.MAX_VALUE - 1);
-        check.due("word(21)", x.word(21), Integer.MAX_VALUE);
-        check.due("word(22)", x.word(22), Integer.MIN_VALUE);
-        check.due("word(23)", x.word(23), Integer.MIN_VALUE + 1);
-        check.due("match", Check.run(x, Check.MATCH, 20, 4, Integer.MAX_VALUE - 1), 0);
-        Check.run(x, Check.FLUSH, 0, 0, 0);
-        check.due("flash(22)", x.flash(22), Integer.MIN_VALUE);
-        check.due("read", Check.run(x, Check.READ, 20, 4, 0), -2);
     }
 }

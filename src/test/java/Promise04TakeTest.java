@@ -5,8 +5,6 @@ public final class Promise04TakeTest {
     public static void main(String[] args) {
         theOldestIsTaken();
         queuesAreApart();
-        wrongQueuesAreRefused();
-        roomIsUsedAgain();
         check.end();
     }
 
@@ -42,35 +40,5 @@ public final class Promise04TakeTest {
         check.due("queue(0, 1)", x.queue(0, 1), 1);
         check.due("take(0)", x.take(0), 1);
         check.due("result()", x.result(), 0);
-    }
-
-    private static void wrongQueuesAreRefused() {
-        QueueDrive x = new QueueDrive(2);
-        for (int queue = 0; queue < 3; queue++) {
-            x.submit(queue, Check.WRITE, 0, 1, 0);
-            x.step(queue, 0);
-        }
-        x.take(1);
-        x.submit(1, Check.WRITE, 0, 1, 0);
-        String before = Check.state(x);
-        for (int off : Check.FAR_OFF) {
-            check.due("take " + off, x.take(off), QueueDrive.REFUSED);
-        }
-        check.due("take(-1)", x.take(-1), QueueDrive.REFUSED);
-        check.due("take(3)", x.take(3), QueueDrive.REFUSED);
-        check.due("pending is not completed", x.take(1), QueueDrive.REFUSED);
-        check.same("the state after refusals", Check.state(x), before);
-    }
-
-    private static void roomIsUsedAgain() {
-        QueueDrive x = new QueueDrive(2);
-        for (int i = 1; i <= 20; i++) {
-            x.submit(0, Check.MATCH, 0, 1 + i % 4, 0);
-            x.step(0, 0);
-            if (i > 3) {
-                check.due("take(0)", x.take(0), i - 3);
-                check.due("result()", x.result(), 1 + (i - 3) % 4);
-            }
-        }
     }
 }

@@ -3,23 +3,8 @@ public final class Promise05ResultTest {
     private static final Check check = new Check();
 
     public static void main(String[] args) {
-        noneBeforeTheFirstTake();
         theResultIsThatOfTheTime();
         check.end();
-    }
-
-    private static void noneBeforeTheFirstTake() {
-        QueueDrive x = new QueueDrive(2);
-        check.due("new", x.result(), QueueDrive.NONE);
-        x.submit(0, Check.WRITE, 0, 1, 5);
-        check.due("pending", x.result(), QueueDrive.NONE);
-        x.step(0, 0);
-        check.due("completed", x.result(), QueueDrive.NONE);
-        x.take(1);
-        check.due("a refused take", x.result(), QueueDrive.NONE);
-        x.take(0);
-        check.due("taken", x.result(), 0);
-        check.due("asked again", x.result(), 0);
     }
 
     private static void theResultIsThatOfTheTime() {

@@ -11,9 +11,6 @@ public final class Promise08PowerDuringTest {
             commandsWithoutPages(pages);
         }
         queuesAreLost();
-        wrongNumbersAreRefused();
-        fourCompletionsAreBusy();
-        theNextCommandIsNotCutOff();
         check.end();
     }
 
@@ -96,55 +93,6 @@ public final class Promise08PowerDuringTest {
         check.due("latest", x.count(1), 9);
         check.due("taken", x.count(4), 4);
         check.due("result", x.result(), 0);
-    }
-
-    private static void wrongNumbersAreRefused() {
-        QueueDrive x = threeUnits(4);
-        x.submit(1, Check.FLUSH, 0, 0, 0);
-        String before = Check.state(x);
-        for (int off : Check.FAR_OFF) {
-            check.due("queue " + off, x.powerDuring(off, 0, 1), QueueDrive.REFUSED);
-            check.due("pick " + off, x.powerDuring(1, off, 1), QueueDrive.REFUSED);
-            check.due("pages " + off, x.powerDuring(1, 0, off), QueueDrive.REFUSED);
-        }
-        check.due("queue -1", x.powerDuring(-1, 0, 1), QueueDrive.REFUSED);
-        check.due("queue 3", x.powerDuring(3, 0, 1), QueueDrive.REFUSED);
-        check.due("pick -1", x.powerDuring(1, -1, 1), QueueDrive.REFUSED);
-        check.due("pick 1", x.powerDuring(1, 1, 1), QueueDrive.REFUSED);
-        check.due("pick 4", x.powerDuring(1, 4, 1), QueueDrive.REFUSED);
-        check.due("pages -1", x.powerDuring(1, 0, -1), QueueDrive.REFUSED);
-        check.due("pages 31", x.powerDuring(1, 0, 31), QueueDrive.REFUSED);
-        check.due("an empty queue", x.powerDuring(0, 0, 1), QueueDrive.REFUSED);
-        check.same("the state after refusals", Check.state(x), before);
-    }
-
-    private static void fourCompletionsAreBusy() {
-        QueueDrive x = new QueueDrive(4);
-        for (int i = 0; i < 4; i++) {
-            x.submit(1, Check.WRITE, i, 1, i);
-            x.step(1, 0);
-        }
-        x.submit(1, Check.FLUSH, 0, 0, 0);
-        String before = Check.state(x);
-        check.due("busy", x.powerDuring(1, 0, 2), QueueDrive.BUSY);
-        check.due("no such one", x.powerDuring(1, 1, 2), QueueDrive.REFUSED);
-        check.due("pages are tested first", x.powerDuring(1, 0, 31), QueueDrive.REFUSED);
-        check.same("the state after BUSY", Check.state(x), before);
-        x.take(1);
-        check.due("one was taken", x.powerDuring(1, 0, 2), 2);
-        check.due("count(2)", x.count(2), 2);
-    }
-
-    private static void theNextCommandIsNotCutOff() {
-        QueueDrive x = threeUnits(3);
-        x.submit(1, Check.FLUSH, 0, 0, 0);
-        check.due("cut off", x.powerDuring(1, 0, 0), 0);
-        check.due("force", Check.run(x, Check.FORCE, 10, 4, 5), 0);
-        check.due("flash(13)", x.flash(13), 8);
-        check.due("count(3)", x.count(3), 8);
-        x.submit(1, Check.FORCE, 20, 2, 5);
-        check.due("pages count anew", x.powerDuring(1, 0, 2), 2);
-        check.due("flash(21)", x.flash(21), 6);
     }
 
     private static QueueDrive threeUnits(int limit) {

@@ -5,7 +5,6 @@ public final class Promise09To10WordsTest {
     public static void main(String[] args) {
         everyAddressHasItsOwnWord();
         cacheHidesFlash();
-        wrongAddressesAreNone();
         check.end();
     }
 
@@ -41,22 +40,5 @@ public final class Promise09To10WordsTest {
         }
         Check.run(x, Check.WRITE, 5, 1, 0);
         check.due("a word of 0 is a word", x.word(5), 0);
-    }
-
-    private static void wrongAddressesAreNone() {
-        QueueDrive x = new QueueDrive(2);
-        Check.run(x, Check.FORCE, 0, 4, 1);
-        Check.run(x, Check.WRITE, 20, 4, 1);
-        String before = Check.state(x);
-        int[] near = {-2, -1, 24, 25};
-        for (int a : near) {
-            check.due("word " + a, x.word(a), QueueDrive.NONE);
-            check.due("flash " + a, x.flash(a), QueueDrive.NONE);
-        }
-        for (int a : Check.FAR_OFF) {
-            check.due("word " + a, x.word(a), QueueDrive.NONE);
-            check.due("flash " + a, x.flash(a), QueueDrive.NONE);
-        }
-        check.same("the state", Check.state(x), before);
     }
 }

@@ -4,7 +4,6 @@ public final class Promise11QueueTest {
 
     public static void main(String[] args) {
         countsAndNumbers();
-        wrongNumbersAreRefused();
         check.end();
     }
 
@@ -35,22 +34,5 @@ public final class Promise11QueueTest {
         for (int what = 0; what < answers.length; what++) {
             check.due("queue(" + queue + ", " + what + ")", x.queue(queue, what), answers[what]);
         }
-    }
-
-    private static void wrongNumbersAreRefused() {
-        QueueDrive x = new QueueDrive(2);
-        for (int i = 0; i < 4; i++) {
-            x.submit(0, Check.READ, 0, 1, 0);
-        }
-        String before = Check.state(x);
-        for (int off : Check.FAR_OFF) {
-            check.due("queue " + off, x.queue(off, 0), QueueDrive.REFUSED);
-            check.due("what " + off, x.queue(0, off), QueueDrive.REFUSED);
-        }
-        check.due("queue -1", x.queue(-1, 0), QueueDrive.REFUSED);
-        check.due("queue 3", x.queue(3, 0), QueueDrive.REFUSED);
-        check.due("what -1", x.queue(0, -1), QueueDrive.REFUSED);
-        check.due("what 6", x.queue(0, 6), QueueDrive.REFUSED);
-        check.same("the state", Check.state(x), before);
     }
 }

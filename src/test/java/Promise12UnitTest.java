@@ -4,7 +4,6 @@ public final class Promise12UnitTest {
 
     public static void main(String[] args) {
         unitsStandFromTheOldest();
-        wrongNumbersAreRefused();
         check.end();
     }
 
@@ -24,23 +23,5 @@ public final class Promise12UnitTest {
         }
         Check.run(x, Check.FLUSH, 0, 0, 0);
         check.due("after a flush", x.unit(0, 0), QueueDrive.REFUSED);
-    }
-
-    private static void wrongNumbersAreRefused() {
-        QueueDrive x = new QueueDrive(6);
-        for (int i = 0; i < 6; i++) {
-            Check.run(x, Check.WRITE, i, 2, 5);
-        }
-        String before = Check.state(x);
-        for (int off : Check.FAR_OFF) {
-            check.due("unit " + off, x.unit(off, 0), QueueDrive.REFUSED);
-            check.due("what " + off, x.unit(0, off), QueueDrive.REFUSED);
-        }
-        check.due("unit -1", x.unit(-1, 0), QueueDrive.REFUSED);
-        check.due("unit 6", x.unit(6, 0), QueueDrive.REFUSED);
-        check.due("what -1", x.unit(0, -1), QueueDrive.REFUSED);
-        check.due("what 3", x.unit(0, 3), QueueDrive.REFUSED);
-        check.due("unit 5", x.unit(5, 0), 5);
-        check.same("the state", Check.state(x), before);
     }
 }

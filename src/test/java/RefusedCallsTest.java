@@ -24,7 +24,8 @@ public final class RefusedCallsTest {
     private static final Check check = new Check();
 
     /** A call on a drive, and the same call on the model, which says whether it is refused. */
-    private record Call(String text, ToLongFunction<QueueDrive> drive, ToLongFunction<Model> model) {
+    private record Call(String text, ToLongFunction<QueueDrive> drive,
+            ToLongFunction<Model> model) {
         boolean asksOnly() {
             return !text.startsWith("submit") && !text.startsWith("step")
                     && !text.startsWith("take") && !text.startsWith("power");
